@@ -379,6 +379,10 @@ public final class PromisesTest {
             x.row(1, 2, value);
         }
         due("9 all of them", x.top(2, 31), 31);
+        x.row(5, 1, 0);
+        x.row(6, 1, 0);
+        due("9 its own head does not bind", x.top(1, 0), 0);
+        due("9 nor the chosen one", x.top(1, 1), 1);
     }
 
     // Promise 10
@@ -515,6 +519,11 @@ public final class PromisesTest {
         due("13 both kinds", x.changed(), 2);
         x.above(0, -1);
         due("13 down to 0", x.changed(), 1);
+        x.row(3, 6, 1);
+        x.row(4, 6, 2);
+        due("13 two more", x.changed(), 2);
+        x.choose(6, 1, true);
+        due("13 its own head does not bind", x.changed(), 2);
 
         FacetCounts y = new FacetCounts();
         y.row(0, 2, 2);
