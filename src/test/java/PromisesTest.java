@@ -65,6 +65,7 @@ public final class PromisesTest {
         due("BAD", FacetCounts.BAD, BAD);
         due("FULL", FacetCounts.FULL, FULL);
         due("NO", FacetCounts.NO, NO);
+        due("public", Modifier.isPublic(FacetCounts.class.getModifiers()) ? 1 : 0, 1);
         due("final", Modifier.isFinal(FacetCounts.class.getModifiers()) ? 1 : 0, 1);
         TreeSet<String> open = new TreeSet<>();
         for (Method m : FacetCounts.class.getDeclaredMethods()) {
